@@ -500,7 +500,7 @@ public final class LotFences {
         }
 
         int lotsIn(int week) {
-            return isWeek(week) ? lots[week] : 0;
+            return week >= 0 && week < WEEKS ? lots[week] : 0;
         }
 
         int lotsInAll() {
@@ -528,7 +528,7 @@ public final class LotFences {
         }
 
         void enterWeek(int week, int factor) {
-            if (isWeek(week)) {
+            if (week >= 0 && week < WEEKS) {
                 behind -= forecasts[week];
             }
             aim = cover(factor);
@@ -689,7 +689,7 @@ public final class LotFences {
         }
 
         int overtimeIn(int week) {
-            return Math.max(0, hoursIn(week) - setting(HOURS));
+            return Math.max(0, hoursWith(week, null, 0) - setting(HOURS));
         }
 
         int allLots() {

@@ -1,0 +1,215 @@
+/** Promises 25 to 27: undo, save, restore. */
+public final class StatesTest {
+    public static void main(String[] args) {
+        undoOfEach();
+        historyOfSix();
+        errorsRecordNothing();
+        undoKeepsPadAndSlots();
+        save();
+        restore();
+        restoreBringsAllBack();
+        Due.end();
+    }
+
+    private static void due(String call, long got, long want) {
+        Due.due(call, got, want);
+    }
+
+    /** Everything that can be asked, but for the pad and the history. */
+    private static String all(LotFences x) {
+        StringBuilder all = new StringBuilder();
+        for (int what = 0; what <= 22; what++) {
+            all.append(what == 8 || what == 9 ? 0 : x.count(what)).append(' ');
+        }
+        for (int product = 0; product < x.count(1); product++) {
+            for (int what = 0; what <= 12; what++) {
+                all.append(x.ofProduct(product, what)).append(' ');
+            }
+            for (int week = 0; week < 12; week++) {
+                all.append(x.at(product, week, 0)).append('/').append(x.at(product, week, 1)).append(' ');
+            }
+        }
+        return all.toString();
+    }
+
+    private static void same(String call, String got, String want) {
+        if (!got.equals(want)) {
+            Due.wrong(call + " gave " + got + ", due is " + want);
+        }
+    }
+
+    private static LotFences works() {
+        LotFences x = new LotFences();
+        x.product(0, 10, 4, 2, 50);
+        x.product(2, 3, 1, 1, 7);
+        x.forecast(0, 3, 70);
+        x.forecast(1, 4, 20);
+        x.plan();
+        x.actual(0, 12);
+        x.weeks(2);
+        x.actual(1, 3);
+        return x;
+    }
+
+    private static void change(LotFences x, int kind) {
+        switch (kind) {
+            case 0: due("25: set()", x.set(4, 50), 100); break;
+            case 1: due("25: set() to the same", x.set(4, 100), 100); break;
+            case 2: due("25: product()", x.product(1, 1, 1, 1, 1), 2); break;
+            case 3: due("25: family()", x.family(2, 8), 5); break;
+            case 4: due("25: forecast()", x.forecast(1, 5, 9), 0); break;
+            case 5: due("25: actual()", x.actual(1, -6), 3); break;
+            case 6: due("25: lots()", x.lots(1, 11, 9), 0); break;
+            case 7: x.plan(); break;
+            case 8: due("25: weeks()", x.weeks(5), 7); break;
+            case 9:
+                Due.put(x, "a0*1;f1@0*9;l1@9*1;n1;p;n0");
+                due("25: carryOut()", x.carryOut(), 5);
+                break;
+            default:
+                due("25: save()", x.save(1), 2);
+                due("25: restore()", x.restore(1), 2);
+                break;
+        }
+    }
+
+    private static void undoOfEach() {
+        for (int kind = 0; kind <= 10; kind++) {
+            LotFences x = works();
+            x.undo();
+            x.actual(1, 3);
+            x.undo();
+            x.undo();
+            x.weeks(2);
+            x.actual(1, 3);
+            String before = all(x);
+            long changes = x.count(9);
+            change(x, kind);
+            due("25: changes behind kind " + kind, x.count(9), Math.min(6, changes + 1));
+            due("25: undo() of kind " + kind, x.undo(), Math.min(6, changes + 1) - 1);
+            same("25: undo() of kind " + kind, all(x), before);
+        }
+    }
+
+    private static void historyOfSix() {
+        LotFences x = new LotFences();
+        due("25: undo() of nothing", x.undo(), -5);
+        for (int k = 1; k <= 9; k++) {
+            x.set(0, k);
+            due("25: count(9)", x.count(9), Math.min(6, k));
+        }
+        for (int k = 5; k >= 0; k--) {
+            due("25: undo()", x.undo(), k);
+            due("25: HOURS", x.count(10), 3 + k);
+        }
+        due("25: the oldest are dropped", x.undo(), -5);
+        due("25: HOURS", x.count(10), 3);
+        x.set(0, 20);
+        x.set(0, 21);
+        due("25: undo()", x.undo(), 1);
+        x.set(0, 22);
+        due("25: undo()", x.undo(), 1);
+        due("25: HOURS", x.count(10), 20);
+        due("25: undo()", x.undo(), 0);
+        due("25: HOURS", x.count(10), 3);
+    }
+
+    private static void errorsRecordNothing() {
+        LotFences x = new LotFences();
+        x.product(0, 1, 1, 0, 0);
+        x.set(0, 2000);
+        x.product(4, 1, 1, 0, 0);
+        x.family(4, 1);
+        x.forecast(1, 0, 0);
+        x.actual(0, -1);
+        x.lots(0, 0, 1);
+        x.weeks(0);
+        x.carryOut();
+        x.restore(0);
+        x.restore(2);
+        x.put(0);
+        due("25: count(9)", x.count(9), 1);
+        x.save(0);
+        x.put('p');
+        x.wipe();
+        x.fault();
+        due("25: what is no change", x.count(9), 1);
+        due("25: undo()", x.undo(), 0);
+    }
+
+    private static void undoKeepsPadAndSlots() {
+        LotFences x = new LotFences();
+        x.weeks(1);
+        x.save(0);
+        x.put('p');
+        x.weeks(1);
+        x.save(1);
+        due("25: undo()", x.undo(), 1);
+        due("25: undo()", x.undo(), 0);
+        due("25: the pad stays", x.count(8), 1);
+        due("25: count(0)", x.count(0), 0);
+        due("25: the slot 0 stays", x.restore(0), 1);
+        due("25: the slot 1 stays", x.restore(1), 2);
+        due("25: undo()", x.undo(), 1);
+        due("25: count(0)", x.count(0), 1);
+    }
+
+    private static void save() {
+        LotFences x = new LotFences();
+        due("26: save(-1)", x.save(-1), -2);
+        due("26: save(2)", x.save(2), -2);
+        due("26: save(most int)", x.save(Integer.MAX_VALUE), -2);
+        due("26: save(least int)", x.save(Integer.MIN_VALUE), -2);
+        due("26: restore(0)", x.restore(0), -5);
+        x.weeks(4);
+        due("26: save(1)", x.save(1), 4);
+        due("26: restore(0)", x.restore(0), -5);
+        due("26: count(9)", x.count(9), 1);
+        x.weeks(3);
+        due("26: save(1) again", x.save(1), 7);
+        x.weeks(1);
+        due("26: it is overwritten", x.restore(1), 7);
+    }
+
+    private static void restore() {
+        LotFences x = new LotFences();
+        due("27: restore(-1)", x.restore(-1), -2);
+        due("27: restore(2)", x.restore(2), -2);
+        due("27: restore(most int)", x.restore(Integer.MAX_VALUE), -2);
+        due("27: restore(least int)", x.restore(Integer.MIN_VALUE), -2);
+        due("27: restore(0)", x.restore(0), -5);
+        due("27: restore(1)", x.restore(1), -5);
+        due("27: wrong ones are no change", x.count(9), 0);
+        x.save(0);
+        x.put(0x7070L);
+        x.weeks(9);
+        due("27: restore(0)", x.restore(0), 0);
+        due("27: it is a change", x.count(9), 2);
+        due("27: the pad stays", x.count(8), 2);
+        x.weeks(2);
+        due("27: the slot keeps it", x.restore(0), 0);
+        due("27: undo()", x.undo(), 3);
+        due("27: count(0)", x.count(0), 2);
+    }
+
+    private static void restoreBringsAllBack() {
+        LotFences x = works();
+        String first = all(x);
+        x.save(0);
+        for (int kind = 0; kind <= 9; kind++) {
+            change(x, kind);
+            x.restore(0);
+            same("27: restore() behind kind " + kind, all(x), first);
+        }
+        x.set(3, 5);
+        x.weeks(3);
+        x.save(1);
+        String second = all(x);
+        x.restore(0);
+        same("27: restore(0)", all(x), first);
+        x.restore(1);
+        same("27: restore(1)", all(x), second);
+        x.undo();
+        same("27: undo() of restore(1)", all(x), first);
+    }
+}
