@@ -52,7 +52,7 @@ public final class LotFences {
         if (!isIn(value, LEAST_SETTINGS[setting], MOST_SETTINGS[setting])) {
             return BAD_VALUE;
         }
-        history.record(works);
+        history.remember(works);
         int before = works.setting(setting);
         works.changeSetting(setting, value);
         return before;
@@ -67,7 +67,7 @@ public final class LotFences {
         if (spare == null) {
             return TOO_MANY;
         }
-        history.record(works);
+        history.remember(works);
         spare.begin(family, lotSize, lotHours, setupHours, stock);
         int number = works.products;
         works.products = number + 1;
@@ -81,7 +81,7 @@ public final class LotFences {
         if (!isIn(hours, 0, MOST_FAMILY_HOURS)) {
             return BAD_VALUE;
         }
-        history.record(works);
+        history.remember(works);
         int before = works.familyHours[family];
         works.familyHours[family] = hours;
         return before;
@@ -97,7 +97,7 @@ public final class LotFences {
         if (!isIn(units, 0, MOST_FORECAST)) {
             return BAD_VALUE;
         }
-        history.record(works);
+        history.remember(works);
         int before = item.forecasts[week];
         item.forecasts[week] = units;
         return before;
@@ -111,7 +111,7 @@ public final class LotFences {
         if (units != NONE && !isIn(units, 0, MOST_ACTUAL)) {
             return BAD_VALUE;
         }
-        history.record(works);
+        history.remember(works);
         int before = item.told;
         item.told = units;
         return before;
@@ -129,14 +129,14 @@ public final class LotFences {
         if (works.isFrozen(week) || hours > works.capacity() && hours > works.hoursIn(week)) {
             return NOT_POSSIBLE;
         }
-        history.record(works);
+        history.remember(works);
         int before = item.lots[week];
         item.lots[week] = lots;
         return before;
     }
 
     public int plan() {
-        history.record(works);
+        history.remember(works);
         works.planAnew();
         return works.allLots();
     }
@@ -145,7 +145,7 @@ public final class LotFences {
         if (!isIn(weeks, 1, MOST_WEEKS)) {
             return BAD_VALUE;
         }
-        history.record(works);
+        history.remember(works);
         for (int k = 0; k < weeks; k++) {
             works.passWeek();
             works.planAnew();
@@ -360,7 +360,7 @@ public final class LotFences {
         if (fault() != NONE) {
             return BAD_TEXT;
         }
-        history.record(works);
+        history.remember(works);
         history.paused = true;
         pad.startReading();
         int carried = 0;
@@ -404,7 +404,7 @@ public final class LotFences {
         if (!saved[slot]) {
             return NOT_POSSIBLE;
         }
-        history.record(works);
+        history.remember(works);
         works.copyFrom(slots[slot]);
         return works.weeksPassed;
     }
@@ -851,7 +851,7 @@ public final class LotFences {
             }
         }
 
-        void record(Works works) {
+        void remember(Works works) {
             if (paused) {
                 return;
             }

@@ -8,6 +8,7 @@ public final class PlansTest {
         planCoversAndLooks();
         planOrder();
         planHours();
+        planFamilies();
         planMost();
         planFrozen();
         planCover();
@@ -195,6 +196,26 @@ public final class PlansTest {
         x.set(0, 0);
         x.set(1, 0);
         due("8: no hours at all", x.plan(), 0);
+    }
+
+    /** A family is set up once a week, also when another family comes between. */
+    private static void planFamilies() {
+        LotFences x = new LotFences();
+        x.set(0, 26);
+        x.set(1, 0);
+        int[] families = {3, 1, 3, 1};
+        for (int product = 0; product < 4; product++) {
+            x.product(families[product], 1, 3, 1, 0);
+            x.forecast(product, 2, 1);
+        }
+        due("8: 5 + 4 + 5 + 4 + 4 + 4", x.plan(), 4);
+        due("8: ofWeek(2, 0)", x.ofWeek(2, 0), 26);
+        due("8: ofWeek(2, 1)", x.ofWeek(2, 1), 6);
+        x.set(0, 25);
+        due("8: plan()", x.plan(), 4);
+        due("8: ofWeek(2, 0)", x.ofWeek(2, 0), 22);
+        due("8: ofWeek(3, 0)", x.ofWeek(3, 0), 9);
+        due("8: at(3, 3, 1)", x.at(3, 3, 1), 1);
     }
 
     private static void planMost() {

@@ -139,23 +139,30 @@ public final class SettingUpTest {
         numberIsFresh();
     }
 
-    /** A number that was undone and comes again has nothing left of what it was. */
+    /** A number that is given away once more has nothing left of what it was. */
     private static void numberIsFresh() {
         LotFences x = new LotFences();
+        x.save(0);
         x.product(0, 1, 1, 0, 5);
         x.forecast(0, 0, 7);
-        x.actual(0, 3);
         x.set(2, 0);
+        x.lots(0, 0, 1);
+        x.actual(0, 40);
+        x.weeks(1);
+        x.forecast(0, 0, 7);
         x.lots(0, 1, 2);
-        for (int k = 0; k < 5; k++) {
-            x.undo();
-        }
+        x.actual(0, 3);
+        due("3: restore(0)", x.restore(0), 0);
         due("3: count(1)", x.count(1), 0);
         due("3: product() anew", x.product(1, 2, 2, 1, 6), 0);
-        due("3: its forecast", x.at(0, 0, 0), 0);
-        due("3: its lots", x.at(0, 1, 1), 0);
-        due("3: what was told", x.ofProduct(0, 8), -6);
-        due("3: its stock", x.ofProduct(0, 4), 6);
+        int[] want = {1, 2, 2, 1, 6, 0, 0, 0, -6, 0, 0, 0, 6};
+        for (int what = 0; what < want.length; what++) {
+            due("3: ofProduct(0, " + what + ") anew", x.ofProduct(0, what), want[what]);
+        }
+        for (int week = 0; week < 12; week++) {
+            due("3: at(0, .., 0) anew", x.at(0, week, 0), 0);
+            due("3: at(0, .., 1) anew", x.at(0, week, 1), 0);
+        }
     }
 
     private static void productOutOfRange() {

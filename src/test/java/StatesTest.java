@@ -8,6 +8,7 @@ public final class StatesTest {
         save();
         restore();
         restoreBringsAllBack();
+        restoreOfOtherProducts();
         Due.end();
     }
 
@@ -211,5 +212,48 @@ public final class StatesTest {
         same("27: restore(1)", all(x), second);
         x.undo();
         same("27: undo() of restore(1)", all(x), first);
+    }
+
+    /** The two states differ in whatever a state has. */
+    private static void restoreOfOtherProducts() {
+        LotFences x = new LotFences();
+        x.save(0);
+        int[] arguments = {0, 1, 2, 3, 4, 5, 6};
+        different(x, arguments);
+        x.save(1);
+        String second = all(x);
+        x.restore(0);
+        for (int k = 0; k < arguments.length; k++) {
+            arguments[k] += 1;
+        }
+        different(x, arguments);
+        x.save(0);
+        String first = all(x);
+        x.restore(1);
+        same("27: restore(1)", all(x), second);
+        x.restore(0);
+        same("27: restore(0)", all(x), first);
+        x.undo();
+        same("27: undo()", all(x), second);
+    }
+
+    private static void different(LotFences x, int[] a) {
+        for (int setting = 0; setting < 9; setting++) {
+            x.set(setting, setting == 2 ? 0 : 1 + a[0]);
+        }
+        for (int family = 0; family < 4; family++) {
+            x.family(family, a[1]);
+        }
+        for (int product = 0; product < 2 + a[0]; product++) {
+            x.product(a[0] + product, 1 + a[1], 1 + a[2], a[3], 10 * a[4]);
+            x.forecast(product, 0, 10 + a[5]);
+            x.forecast(product, 5, 20 + a[6]);
+        }
+        x.set(0, 500);
+        x.lots(0, 0, 100 + a[2]);
+        x.set(0, 10);
+        x.actual(0, 30 + a[6]);
+        x.weeks(1 + a[0]);
+        x.actual(1, 3 + a[5]);
     }
 }

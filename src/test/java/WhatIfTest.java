@@ -8,8 +8,11 @@ public final class WhatIfTest {
         leastHours();
         leastHoursIsNoThreshold();
         costs();
+        costsPlanAtOnce();
+        costsPlanEachWeek();
         costsForgetWhatWasTold();
         bestFence();
+        bestFenceInTheMiddle();
         roomFor();
         nothingChanges();
         Due.end();
@@ -143,6 +146,28 @@ public final class WhatIfTest {
         due("18: costs so far stay", x.count(4), 5);
     }
 
+    private static void costsPlanAtOnce() {
+        LotFences x = new LotFences();
+        x.set(6, 7);
+        x.product(0, 10, 4, 2, 5);
+        x.forecast(0, 0, 8);
+        due("18: FENCE 0 makes a lot at once", x.costs(0, 1), 100 + 7 * 7);
+        due("18: FENCE 1 is late", x.costs(1, 1), 15);
+        x.lots(0, 2, 4);
+        due("18: FENCE 8 keeps what is planned", x.costs(8, 3), 15 + 15 + 100 + 37 * 7);
+        due("18: FENCE 2 plans it anew", x.costs(2, 3), 15 + 15 + 100 + 7 * 7);
+    }
+
+    /** The last week has no next one to look at, but has one when it is planned anew in a later week. */
+    private static void costsPlanEachWeek() {
+        LotFences x = new LotFences();
+        x.product(0, 1, 1, 0, 0);
+        x.forecast(0, 11, 10);
+        due("18: 10 lots are planned now", x.plan(), 10);
+        due("18: costs(2, 11)", x.costs(2, 11), 0);
+        due("18: costs(2, 12), 20 lots", x.costs(2, 12), 100 + 10);
+    }
+
     private static void costsForgetWhatWasTold() {
         LotFences x = new LotFences();
         x.product(0, 1, 1, 0, 100);
@@ -176,6 +201,25 @@ public final class WhatIfTest {
         due("19: FENCE stays", x.count(12), 2);
     }
 
+    /** Lots in the week 0 are dear to keep, those that come from the week 2 on are late. */
+    private static void bestFenceInTheMiddle() {
+        LotFences x = new LotFences();
+        x.set(5, 0);
+        x.set(4, 0);
+        x.product(0, 1, 1, 0, 0);
+        x.forecast(0, 0, 1);
+        x.forecast(0, 1, 9);
+        x.set(6, 100);
+        // FENCE 0 keeps 9 units for a week, FENCE 1 has 1 unit late, FENCE 2 has 10.
+        due("19: costs(0, 2)", x.costs(0, 2), 900);
+        due("19: costs(1, 2)", x.costs(1, 2), 5);
+        due("19: costs(2, 2)", x.costs(2, 2), 5 + 50);
+        due("19: bestFence(2)", x.bestFence(2), 1);
+        due("19: bestFence(1)", x.bestFence(1), 8);
+        x.set(7, 0);
+        due("19: nothing is late", x.bestFence(2), 8);
+    }
+
     private static void roomFor() {
         LotFences x = new LotFences();
         due("20: roomFor(0, 2) without products", x.roomFor(0, 2), -1);
@@ -190,6 +234,11 @@ public final class WhatIfTest {
         due("20: (120 - 88 - 1) / 4", x.roomFor(1, 2), 7);
         due("20: 120 - 88 are too few", x.roomFor(2, 2), 0);
         due("20: another week", x.roomFor(2, 3), 1);
+        x.set(0, 55);
+        due("20: 75 - 20 - 5 for one lot of 50", x.roomFor(2, 3), 1);
+        x.set(0, 54);
+        due("20: 74 are one too few", x.roomFor(2, 3), 0);
+        x.set(0, 100);
         x.lots(0, 2, 11);
         due("20: one hour is left, one is needed for the setup", x.roomFor(1, 2), 0);
         x.set(0, 98);
