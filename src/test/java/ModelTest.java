@@ -1,7 +1,10 @@
 /** Long runs of calls, the same ones each time, with the answers of LotFencesModel. */
 public final class ModelTest {
-    private static final int RUNS = 240;
+    private static final int RUNS = 1200;
+    // An object answers for 512 calls; no kind of call below takes more than 16 of them.
     private static final int CALLS = 512;
+    private static final int MOST_AT_ONCE = 16;
+    private static final int CALLS_OF_A_PRODUCT = 85;
     private static final int[] ODD = {
         -1, 12, 10, 4, 1001, 2001, -6, -7, 13, 31, 101, 51, 21, 10001, Integer.MAX_VALUE, Integer.MIN_VALUE, -2};
     private static final int[] MOST_SETTINGS = {1000, 500, 8, 6, 400, 1000, 100, 100, 100};
@@ -10,7 +13,7 @@ public final class ModelTest {
     private static LotFences x;
     private static LotFencesModel m;
     private static int scale;
-    private static String last = "";
+    private static int calls;
 
     public static void main(String[] args) {
         for (int run = 0; run < RUNS; run++) {
@@ -18,10 +21,11 @@ public final class ModelTest {
             scale = 1 + run % 4;
             x = new LotFences();
             m = new LotFencesModel();
-            for (int call = 0; call < CALLS; call++) {
-                call("run " + run + ", call " + call + ": ", call < 12 ? call % 3 : below(40));
-                if (call % 64 == 63) {
-                    compareAll("run " + run + ", behind call " + call + " " + last + ": ");
+            calls = 0;
+            for (int turn = 0; calls <= CALLS - MOST_AT_ONCE; turn++) {
+                call("run " + run + ", call " + calls + ": ", turn < 12 ? turn % 3 : below(40));
+                if (turn % 32 == 31) {
+                    compare("run " + run + ", behind call " + calls + ": ", below(4));
                 }
             }
         }
@@ -79,7 +83,7 @@ public final class ModelTest {
     }
 
     private static void due(String call, long got, long want) {
-        last = call;
+        calls++;
         Due.due(call, got, want);
     }
 
@@ -231,17 +235,23 @@ public final class ModelTest {
         }
     }
 
-    private static void compareAll(String at) {
-        for (int what = -1; what <= 23; what++) {
-            due(at + "count(" + what + ")", x.count(what), m.count(what));
+    /** Looks at a part of all that can be seen, as long as there are calls left for it. */
+    private static void compare(String at, int part) {
+        if (calls > CALLS - CALLS_OF_A_PRODUCT) {
+            return;
         }
-        for (int week = -1; week <= 12; week++) {
-            for (int what = -1; what <= 5; what++) {
-                due(at + "ofWeek(" + week + ", " + what + ")", x.ofWeek(week, what), m.ofWeek(week, what));
+        if (part == 0) {
+            for (int what = -1; what <= 23; what++) {
+                due(at + "count(" + what + ")", x.count(what), m.count(what));
             }
-        }
-        for (int product = -1; product <= m.count(1); product++) {
-            compareProduct(at, product);
+        } else if (part == 1) {
+            for (int week = below(6); week <= 12; week += 2) {
+                for (int what = -1; what <= 5; what++) {
+                    due(at + "ofWeek(" + week + ", " + what + ")", x.ofWeek(week, what), m.ofWeek(week, what));
+                }
+            }
+        } else {
+            compareProduct(at, below((int) m.count(1) + 1));
         }
     }
 

@@ -16,23 +16,6 @@ public final class StatesTest {
         Due.due(call, got, want);
     }
 
-    /** Everything that can be asked, but for the pad and the history. */
-    private static String all(LotFences x) {
-        StringBuilder all = new StringBuilder();
-        for (int what = 0; what <= 22; what++) {
-            all.append(what == 8 || what == 9 ? 0 : x.count(what)).append(' ');
-        }
-        for (int product = 0; product < x.count(1); product++) {
-            for (int what = 0; what <= 12; what++) {
-                all.append(x.ofProduct(product, what)).append(' ');
-            }
-            for (int week = 0; week < 12; week++) {
-                all.append(x.at(product, week, 0)).append('/').append(x.at(product, week, 1)).append(' ');
-            }
-        }
-        return all.toString();
-    }
-
     private static void same(String call, String got, String want) {
         if (!got.equals(want)) {
             Due.wrong(call + " gave " + got + ", due is " + want);
@@ -83,12 +66,12 @@ public final class StatesTest {
             x.undo();
             x.weeks(2);
             x.actual(1, 3);
-            String before = all(x);
+            String before = Seen.state(x);
             long changes = x.count(9);
             change(x, kind);
             due("25: changes behind kind " + kind, x.count(9), Math.min(6, changes + 1));
             due("25: undo() of kind " + kind, x.undo(), Math.min(6, changes + 1) - 1);
-            same("25: undo() of kind " + kind, all(x), before);
+            same("25: undo() of kind " + kind, Seen.state(x), before);
         }
     }
 
@@ -194,50 +177,50 @@ public final class StatesTest {
     }
 
     private static void restoreBringsAllBack() {
-        LotFences x = works();
-        String first = all(x);
-        x.save(0);
         for (int kind = 0; kind <= 9; kind++) {
+            LotFences x = works();
+            String first = Seen.state(x);
+            x.save(0);
             change(x, kind);
             x.restore(0);
-            same("27: restore() behind kind " + kind, all(x), first);
+            same("27: restore() behind kind " + kind, Seen.state(x), first);
         }
+        LotFences x = works();
+        String first = Seen.state(x);
+        x.save(0);
         x.set(3, 5);
         x.weeks(3);
         x.save(1);
-        String second = all(x);
         x.restore(0);
-        same("27: restore(0)", all(x), first);
+        same("27: restore(0)", Seen.state(x), first);
         x.restore(1);
-        same("27: restore(1)", all(x), second);
         x.undo();
-        same("27: undo() of restore(1)", all(x), first);
+        same("27: undo() of restore(1)", Seen.state(x), first);
     }
 
     /** The two states differ in whatever a state has. */
     private static void restoreOfOtherProducts() {
-        LotFences x = new LotFences();
-        x.save(0);
-        int[] arguments = {0, 1, 2, 3, 4, 5, 6};
-        different(x, arguments);
-        x.save(1);
-        String second = all(x);
-        x.restore(0);
-        for (int k = 0; k < arguments.length; k++) {
-            arguments[k] += 1;
+        int[] few = {0, 1, 2, 3, 4, 5, 6};
+        int[] more = {1, 2, 3, 4, 5, 6, 7};
+        String second = Seen.state(different(new LotFences(), few));
+        String first = Seen.state(different(new LotFences(), more));
+        for (int slot = 0; slot < 2; slot++) {
+            LotFences x = new LotFences();
+            x.save(0);
+            different(x, few);
+            x.save(1);
+            x.restore(0);
+            different(x, more);
+            x.save(0);
+            x.restore(1 - slot);
+            x.restore(slot);
+            same("27: restore(" + slot + ")", Seen.state(x), slot == 0 ? first : second);
+            x.undo();
+            same("27: undo() of it", Seen.state(x), slot == 0 ? second : first);
         }
-        different(x, arguments);
-        x.save(0);
-        String first = all(x);
-        x.restore(1);
-        same("27: restore(1)", all(x), second);
-        x.restore(0);
-        same("27: restore(0)", all(x), first);
-        x.undo();
-        same("27: undo()", all(x), second);
     }
 
-    private static void different(LotFences x, int[] a) {
+    private static LotFences different(LotFences x, int[] a) {
         for (int setting = 0; setting < 9; setting++) {
             x.set(setting, setting == 2 ? 0 : 1 + a[0]);
         }
@@ -255,5 +238,6 @@ public final class StatesTest {
         x.actual(0, 30 + a[6]);
         x.weeks(1 + a[0]);
         x.actual(1, 3 + a[5]);
+        return x;
     }
 }
