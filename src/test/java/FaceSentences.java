@@ -19,13 +19,14 @@ final class FaceSentences extends Sentences {
         settings();
         nothingElse();
         lastCall();
-        constantsOfTerms();
+        codesOfTerms();
+        settingsOfTerms();
         noBoundary(FACE, "java public final class LotFences {");
-        noBoundary("What it is", "Lots for a row of weeks that rolls on: forecasts and what really comes, products in families "
-            + "that share setups, hours and overtime, stock, backlog, a cover that follows the errors of forecasts, lots that "
-            + "cover some weeks, plans that are frozen up to a fence and are planned anew behind it, costs, forecasts of "
-            + "stock, when stock runs short, the least hours, what other fences would cost, acts that are read from texts, "
-            + "undo, and saved states.");
+        noBoundary("What it is", "Lots for a row of weeks that rolls on: forecasts and what really comes, products in "
+            + "families that share setups, hours and overtime, stock, backlog, a cover that follows the errors of "
+            + "forecasts, lots that cover some weeks, plans that are frozen up to a fence and are planned anew behind it, "
+            + "costs, forecasts of stock, when stock runs short, the least hours, what other fences would cost, acts "
+            + "that are read from texts, undo, and saved states.");
         for (String calls : new String[] {"set, product, family the interface says: ---- setting up.",
             "forecast, actual, lots, plan, weeks the interface says: ---- forecasts, plans.",
             "ofProduct, at, projection, ofWeek, count the interface says: ---- what there is.",
@@ -43,7 +44,8 @@ final class FaceSentences extends Sentences {
         Set<String> due = new TreeSet<>();
         while (line.find()) {
             sentence(promiseOf(line.group(2)), FACE, line.group());
-            String head = line.group(1) + " " + line.group(2) + "(" + line.group(3).replaceAll(" \\w+(?=,|$)", "") + ")";
+            String types = line.group(3).replaceAll(" \\w+(?=,|$)", "");
+            String head = "public " + line.group(1) + " " + line.group(2) + "(" + types + ")";
             due(head, heads().contains(head) ? 1 : 0, 1);
             due.add(head);
         }
@@ -59,7 +61,8 @@ final class FaceSentences extends Sentences {
                 for (Class<?> type : method.getParameterTypes()) {
                     types.append(types.length() == 0 ? "" : ", ").append(type);
                 }
-                heads.add(method.getReturnType() + " " + method.getName() + "(" + types + ")");
+                heads.add(Modifier.toString(method.getModifiers()) + " " + method.getReturnType() + " " + method.getName()
+                    + "(" + types + ")");
             }
         }
         return heads;
@@ -94,8 +97,8 @@ final class FaceSentences extends Sentences {
     }
 
     private static void settings() throws ReflectiveOperationException {
-        sentence("2", FACE, "public static final int HOURS = 0, OVERTIME = 1, FENCE = 2, LOOK = 3, FACTOR = 4, SETUP = 5, "
-            + "HOLD = 6, LATE = 7, OVER = 8;");
+        sentence("2", FACE, "public static final int HOURS = 0, OVERTIME = 1, FENCE = 2, LOOK = 3, FACTOR = 4, SETUP = "
+            + "5, HOLD = 6, LATE = 7, OVER = 8;");
         String[] names = {"HOURS", "OVERTIME", "FENCE", "LOOK", "FACTOR", "SETUP", "HOLD", "LATE", "OVER"};
         for (int k = 0; k < names.length; k++) {
             constant(names[k], k);
@@ -120,8 +123,8 @@ final class FaceSentences extends Sentences {
 
     /** The last one of 512 calls is answered like the others, and another object begins anew. */
     private static void lastCall() {
-        sentence("1", "What it is", "An object is used for at most 512 calls after it has been made; what later calls answer "
-            + "is free.");
+        sentence("1", "What it is", "An object is used for at most 512 calls after it has been made; what later "
+            + "calls answer is free.");
         LotFences x = one(10, 1, 0, 0);
         x.forecast(0, 11, 7);
         int weeks = 0;
@@ -134,7 +137,7 @@ final class FaceSentences extends Sentences {
         due("the first call of another object", new LotFences().count(0), 0);
     }
 
-    private static void constantsOfTerms() {
+    private static void codesOfTerms() {
         sentence("2 to 27", "Texts", "The constants: NO_SUCH = -1, BAD_VALUE = -2, BAD_TEXT = -3, TOO_MANY = -4, "
             + "NOT_POSSIBLE = -5, NONE = -6: Error codes, and NONE: there is none.");
         due("NO_SUCH", LotFences.NO_SUCH, -1);
@@ -143,8 +146,11 @@ final class FaceSentences extends Sentences {
         due("TOO_MANY", LotFences.TOO_MANY, -4);
         due("NOT_POSSIBLE", LotFences.NOT_POSSIBLE, -5);
         due("NONE", LotFences.NONE, -6);
-        sentence("2", "Texts", "HOURS = 0, OVERTIME = 1, FENCE = 2, LOOK = 3, FACTOR = 4, SETUP = 5, HOLD = 6, LATE = 7, "
-            + "OVER = 8: Settings.");
+    }
+
+    private static void settingsOfTerms() {
+        sentence("2", "Texts", "HOURS = 0, OVERTIME = 1, FENCE = 2, LOOK = 3, FACTOR = 4, SETUP = 5, HOLD = 6, "
+            + "LATE = 7, OVER = 8: Settings.");
         int[] settings = {LotFences.HOURS, LotFences.OVERTIME, LotFences.FENCE, LotFences.LOOK, LotFences.FACTOR,
             LotFences.SETUP, LotFences.HOLD, LotFences.LATE, LotFences.OVER};
         int[] first = {100, 20, 2, 2, 100, 50, 1, 5, 3};

@@ -14,11 +14,16 @@ final class NumberSentences extends Sentences {
         projection();
         projectionReturns();
         projectionOfNothing();
-        ofWeek();
+        ofWeekHours();
+        ofWeekSetups();
+        ofWeekOvertime();
+        ofWeekFamilies();
+        ofWeekFrozen();
         ofWeekOfNothing();
         ofWeekOutOfRange();
         count();
-        settingsAndFamilies();
+        countSettings();
+        countFamilies();
         countOutOfRange();
     }
 
@@ -221,7 +226,7 @@ final class NumberSentences extends Sentences {
         return x;
     }
 
-    private static void ofWeek() {
+    private static void ofWeekHours() {
         noBoundary("Promise 13", "Returns a number about a week.");
         noBoundary("Promise 13", "Returns the number;");
         sentence(13, "what: 0 its hours,");
@@ -229,15 +234,22 @@ final class NumberSentences extends Sentences {
         due("9 * 7 + 4 + 5, 2 * 2 + 6 + 5, 1 + 5", x.ofWeek(4, 0), 72 + 15 + 6);
         due("no lots", x.ofWeek(5, 0), 0);
         due("the last week", x.ofWeek(11, 0), 8);
+    }
+
+    private static void ofWeekSetups() {
         sentence(13, "1 its setups,");
+        LotFences x = made();
         due("three products, three families", x.ofWeek(4, 1), 6);
         due("no lots", x.ofWeek(5, 1), 0);
         due("one product, one family", x.ofWeek(11, 1), 2);
         x.set(HOURS, 200);
         x.lots(3, 4, 1);
         due("a second one of the family 3", x.ofWeek(4, 1), 7);
-        x.lots(3, 4, 0);
+    }
+
+    private static void ofWeekOvertime() {
         sentence(13, "2 its overtime,");
+        LotFences x = made();
         x.set(HOURS, 93);
         due("93 of 93 hours", x.ofWeek(4, 2), 0);
         x.set(HOURS, 92);
@@ -245,7 +257,11 @@ final class NumberSentences extends Sentences {
         x.set(HOURS, 0);
         due("93 of 0 hours", x.ofWeek(4, 2), 93);
         due("no lots", x.ofWeek(5, 2), 0);
+    }
+
+    private static void ofWeekFamilies() {
         sentence(13, "3 the set of the families of which lots are made (bits),");
+        LotFences x = made();
         due("0, 1 and 3", x.ofWeek(4, 3), 11);
         due("3 alone", x.ofWeek(11, 3), 8);
         due("none", x.ofWeek(5, 3), 0);
@@ -253,7 +269,11 @@ final class NumberSentences extends Sentences {
         due("0 and 3", x.ofWeek(4, 3), 9);
         x.lots(2, 4, 0);
         due("0 alone", x.ofWeek(4, 3), 1);
+    }
+
+    private static void ofWeekFrozen() {
         sentence(13, "4 whether it is frozen (1 or 0)");
+        LotFences x = made();
         for (int fence = 0; fence <= 8; fence++) {
             x.set(FENCE, fence);
             for (int week = 0; week < 12; week++) {
@@ -343,7 +363,7 @@ final class NumberSentences extends Sentences {
         }
     }
 
-    private static void settingsAndFamilies() {
+    private static void countSettings() {
         sentence(14, "10 to 18 the settings,");
         LotFences x = new LotFences();
         int[] first = {100, 20, 2, 2, 100, 50, 1, 5, 3};
@@ -352,7 +372,11 @@ final class NumberSentences extends Sentences {
             x.set(setting, 6);
             due("count(" + (10 + setting) + ") of 6", x.count(10 + setting), 6);
         }
+    }
+
+    private static void countFamilies() {
         sentence(14, "19 to 22 the hours of the families");
+        LotFences x = new LotFences();
         for (int family = 0; family < 4; family++) {
             due("count(" + (19 + family) + ")", x.count(19 + family), 5);
             x.family(family, 50 - family);

@@ -7,7 +7,8 @@ final class PlanSentences extends Sentences {
         forecastTells();
         forecastLeavesPlans();
         forecastIsAChange();
-        forecastArguments();
+        forecastWeek();
+        forecastUnits();
         forecastReturns();
         forecastOfNothing();
         forecastOutOfRange();
@@ -19,7 +20,8 @@ final class PlanSentences extends Sentences {
         actualOutOfRange();
         lotsPlans();
         lotsIsAChange();
-        lotsArguments();
+        lotsWeek();
+        lotsLots();
         lotsReturns();
         lotsOfNothing();
         lotsOutOfRange();
@@ -74,7 +76,7 @@ final class PlanSentences extends Sentences {
         due("at(0, 11, 0)", x.at(0, 11, FORECAST), 0);
     }
 
-    private static void forecastArguments() {
+    private static void forecastWeek() {
         sentence(5, "week: 0 to 11");
         LotFences x = two();
         due("forecast(0, -1, 1)", x.forecast(0, -1, 1), NO_SUCH);
@@ -82,7 +84,11 @@ final class PlanSentences extends Sentences {
         due("forecast(0, 11, 2)", x.forecast(0, 11, 2), 0);
         due("forecast(0, 12, 1)", x.forecast(0, 12, 1), NO_SUCH);
         dueRow(x, 0, FORECAST, 1, 0, 0, 0, 0, 0, 0, 0, 0, 0, 0, 2);
+    }
+
+    private static void forecastUnits() {
         sentence(5, "units: 0 to 1000");
+        LotFences x = two();
         due("forecast(1, 0, 1001)", x.forecast(1, 0, 1001), BAD_VALUE);
         due("forecast(1, 0, 1000)", x.forecast(1, 0, 1000), 0);
         due("forecast(1, 0, -1)", x.forecast(1, 0, -1), BAD_VALUE);
@@ -223,7 +229,7 @@ final class PlanSentences extends Sentences {
         due("at(0, 5, 1)", x.at(0, 5, LOTS), 0);
     }
 
-    private static void lotsArguments() {
+    private static void lotsWeek() {
         sentence(7, "week: FENCE to 11");
         for (int fence = 0; fence <= 8; fence++) {
             LotFences x = two();
@@ -233,6 +239,9 @@ final class PlanSentences extends Sentences {
             due("lots(0, 11, 1), FENCE " + fence, x.lots(0, 11, 1), 0);
             due("lots(0, 12, 1), FENCE " + fence, x.lots(0, 12, 1), NO_SUCH);
         }
+    }
+
+    private static void lotsLots() {
         sentence(7, "lots: 0 to 1000");
         LotFences x = two();
         x.set(HOURS, 1000);
@@ -310,6 +319,8 @@ final class PlanSentences extends Sentences {
         x.set(OVERTIME, 0);
         due("less hours than now, still more than 50", x.lots(0, 3, 9), 10);
         due("at(0, 3, 1)", x.at(0, 3, LOTS), 9);
+        due("more hours than now, more than 50 already", x.lots(0, 3, 10), NOT_POSSIBLE);
+        due("another one in this week", x.lots(1, 3, 1), NOT_POSSIBLE);
         due("50 of 50 hours in another week", x.lots(0, 4, 4), 0);
         due("60 of 50 hours in another week", x.lots(0, 4, 5), NOT_POSSIBLE);
         x.set(HOURS, 1000);

@@ -73,8 +73,8 @@ final class PlanningSentences extends Sentences {
     }
 
     private static void lessThanTheCover() {
-        sentence("8, 9", "Planning", "the products whose projection behind this week (without lots in it) is less than their "
-            + "cover are gone through,");
+        sentence("8, 9", "Planning", "the products whose projection behind this week (without lots in it) is less "
+            + "than their cover are gone through,");
         due("20 units, a cover of 20", covered(200).plan(), 0);
         LotFences x = covered(200);
         x.forecast(0, 11, 1);
@@ -83,13 +83,17 @@ final class PlanningSentences extends Sentences {
         LotFences y = one(1, 1, 0, 7);
         y.forecast(0, 2, 7);
         due("0 units, no cover", y.plan(), 0);
+        y.forecast(0, 3, 4);
+        y.plan();
+        dueRow(y, 0, LOTS, 0, 0, 0, 4, 0);
+        y.forecast(0, 3, 0);
         y.forecast(0, 2, 8);
         due("-1 units, no cover", y.plan(), 1);
         y.lots(0, 2, 5);
         due("-1 units without 5 lots that were there", y.plan(), 1);
     }
 
-    /** One lot needs 4 hours and 5 of a family; each product has a family of its own, and there are hours for one of them. */
+    /** One lot needs 4 hours, and 5 of a family; each product has one of its own, and there are hours for one of them. */
     private static LotFences rivals(int... forecasts) {
         LotFences x = new LotFences();
         x.set(HOURS, 9);
@@ -147,8 +151,8 @@ final class PlanningSentences extends Sentences {
     }
 
     private static void coverAndNextWeeks() {
-        sentence("8, 9", "Planning", "for what its projection is less than its cover, and the forecasts of the next LOOK - 1 weeks "
-            + "(as far as there are such weeks) together.");
+        sentence("8, 9", "Planning", "for what its projection is less than its cover, and the forecasts of the "
+            + "next LOOK - 1 weeks (as far as there are such weeks) together.");
         int[] lots = {0, 1, 3, 7, 15, 31, 63};
         for (int look = 1; look <= 6; look++) {
             LotFences x = one(1, 1, 0, 0);
@@ -181,8 +185,8 @@ final class PlanningSentences extends Sentences {
     }
 
     private static void hoursThatAreLeft() {
-        sentence("8, 9", "Planning", "It gets as many of them as the hours of this week allow that are left of HOURS + OVERTIME, "
-            + "with its setup,");
+        sentence("8, 9", "Planning", "It gets as many of them as the hours of this week allow that are left of "
+            + "HOURS + OVERTIME, with its setup,");
         LotFences x = one(1, 10, 3, 0);
         x.forecast(0, 2, 5);
         int[][] settings = {{38, 0}, {37, 0}, {30, 8}, {30, 7}, {0, 38}, {18, 0}, {17, 0}};
@@ -266,8 +270,8 @@ final class PlanningSentences extends Sentences {
     }
 
     private static void frozen() {
-        sentence("7, 8, 9, 13", "Planning", "The plans of the weeks ahead of FENCE are frozen: they stay as they are, also if the "
-            + "hours of such a week are more than HOURS + OVERTIME since a setting changed.");
+        sentence("7, 8, 9, 13", "Planning", "The plans of the weeks ahead of FENCE are frozen: they stay as they "
+            + "are, also if the hours of such a week are more than HOURS + OVERTIME since a setting changed.");
         LotFences x = one(10, 10, 5, 0);
         x.set(FENCE, 0);
         x.lots(0, 0, 11);
@@ -313,8 +317,8 @@ final class PlanningSentences extends Sentences {
     }
 
     private static void toldOrForecast() {
-        sentence("6, 9", "A week", "2. Of each product, what really comes in this week is the number that was told for it, "
-            + "otherwise its forecast;");
+        sentence("6, 9", "A week", "2. Of each product, what really comes in this week is the number that was told "
+            + "for it, otherwise its forecast;");
         LotFences x = one(1, 1, 0, 5000);
         x.product(1, 1, 1, 0, 5000);
         x.set(FENCE, 8);
@@ -337,8 +341,8 @@ final class PlanningSentences extends Sentences {
     }
 
     private static void shipped() {
-        sentence("9", "A week", "what comes and the backlog together are shipped, as far as there is stock; the rest is the "
-            + "backlog then.");
+        sentence("9", "A week", "what comes and the backlog together are shipped, as far as there is stock; the "
+            + "rest is the backlog then.");
         int[] told = {9, 10, 11, 0, 2000};
         int[] stock = {1, 0, 0, 10, 0};
         int[] backlog = {0, 0, 1, 0, 1990};
@@ -370,8 +374,8 @@ final class PlanningSentences extends Sentences {
     }
 
     private static void error() {
-        sentence("9", "A week", "3. The error of each product becomes (7 * error + the difference of what came and the forecast, as "
-            + "an amount) / 8, rounded up.");
+        sentence("9", "A week", "3. The error of each product becomes (7 * error + the difference of what came and "
+            + "the forecast, as an amount) / 8, rounded up.");
         int[] told = {10, 11, 18, 19, 9, 2, 1, 0, 2000};
         int[] errors = {0, 1, 1, 2, 1, 1, 2, 2, 249};
         for (int k = 0; k < told.length; k++) {
@@ -396,8 +400,8 @@ final class PlanningSentences extends Sentences {
     }
 
     private static void costs() {
-        sentence("9, 14", "A week", "4. The costs become greater by SETUP for each setup of this week, OVER for each hour of "
-            + "overtime, HOLD for each unit in stock, LATE for each unit of backlog.");
+        sentence("9, 14", "A week", "4. The costs become greater by SETUP for each setup of this week, OVER for "
+            + "each hour of overtime, HOLD for each unit in stock, LATE for each unit of backlog.");
         LotFences x = one(10, 4, 2, 5);
         x.set(FENCE, 0);
         x.product(1, 6, 3, 1, 40);
@@ -459,7 +463,8 @@ final class PlanningSentences extends Sentences {
     }
 
     private static void lastWeek() {
-        sentence("9", "A week", "the week 11 keeps the forecast that it had (so the week 10 has it, too), and has no lots;");
+        sentence("9", "A week", "the week 11 keeps the forecast that it had (so the week 10 has it, too), and has "
+            + "no lots;");
         LotFences x = one(1, 1, 0, 10000);
         x.set(FENCE, 0);
         x.forecast(0, 10, 5);

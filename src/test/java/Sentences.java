@@ -101,6 +101,24 @@ abstract class Sentences {
         return x;
     }
 
+    /** No products, but the number 0 had one with lots, forecasts, an error and a backlog before it was taken back. */
+    static LotFences takenBack() {
+        LotFences x = new LotFences();
+        x.save(0);
+        x.product(1, 2, 3, 4, 5);
+        x.set(FENCE, 0);
+        row(x, 0, 0, 9, 8, 7, 6, 5, 4, 3, 2, 1, 2, 3, 4);
+        for (int week = 0; week < 12; week++) {
+            x.lots(0, week, 1);
+        }
+        x.actual(0, 500);
+        x.set(FENCE, 8);
+        x.weeks(1);
+        x.actual(0, 1);
+        x.restore(0);
+        return x;
+    }
+
     static LotFences ten() {
         LotFences x = new LotFences();
         for (int product = 0; product < 10; product++) {

@@ -80,10 +80,11 @@ final class SettingUpSentences extends Sentences {
         x.plan();
         for (int setting = 0; setting < 9; setting++) {
             x.set(setting, LEAST[setting]);
-            due("lots in plans, the least setting " + setting, x.count(5), 5);
+            due("at(0, 3, 1), the least setting " + setting, x.at(0, 3, LOTS), 5);
+            due("lots in all plans", x.count(5), 5);
             x.set(setting, MOST[setting]);
-            due("lots in plans, the greatest setting " + setting, x.count(5), 5);
-            due("at(0, 3, 1)", x.at(0, 3, LOTS), 5);
+            due("at(0, 3, 1), the greatest setting " + setting, x.at(0, 3, LOTS), 5);
+            due("lots in all plans", x.count(5), 5);
         }
         x.set(HOURS, 0);
         due("overtime follows the setting", x.ofWeek(3, 2), 55);
@@ -152,6 +153,11 @@ final class SettingUpSentences extends Sentences {
         dueRow(x, 0, FORECAST, 0, 0, 0, 0, 0, 0, 0, 0, 0, 0, 0, 0);
         dueRow(x, 0, LOTS, 0, 0, 0, 0, 0, 0, 0, 0, 0, 0, 0, 0);
         due("nothing is planned", x.count(5), 0);
+        LotFences y = takenBack();
+        y.product(0, 1, 1, 0, 0);
+        for (int what = 0; what <= 12; what++) {
+            due("ofProduct(0, " + what + ") of a number that had another product", y.ofProduct(0, what), least[what]);
+        }
     }
 
     private static void productIsAChange() {
@@ -206,7 +212,8 @@ final class SettingUpSentences extends Sentences {
         sentence(3, "BAD_VALUE if an argument is out of range;");
         LotFences x = new LotFences();
         for (int argument = 0; argument < 5; argument++) {
-            for (int value : new int[] {LEAST_ARGUMENTS[argument] - 1, MOST_ARGUMENTS[argument] + 1, LEAST_INT, MOST_INT}) {
+            int[] values = {LEAST_ARGUMENTS[argument] - 1, MOST_ARGUMENTS[argument] + 1, LEAST_INT, MOST_INT};
+            for (int value : values) {
                 due("product() with " + value + " at " + argument, product(x, argument, value), BAD_VALUE);
             }
         }

@@ -50,6 +50,38 @@ final class StateSentences extends Sentences {
         return x;
     }
 
+    /** Two of these, told apart by 0 and 1, have no number in common. */
+    private static LotFences filled(LotFences x, int by) {
+        x.product(by, 2 + by, 3 + by, 4 + by, 50 + by);
+        row(x, 0, 0, 60 + by, 1 + by, 2 + by, 3 + by, 4 + by, 5 + by, 6 + by, 7 + by, 8 + by, 9 + by, 10 + by, 11 + by);
+        x.set(FENCE, 0);
+        x.lots(0, 0, 9 + by);
+        x.actual(0, 300 + 10 * by);
+        int[] settings = {10, 30, 1, 2, 50, 5, 20, 30, 40};
+        for (int setting = 0; setting < 9; setting++) {
+            x.set(setting, settings[setting] + by);
+        }
+        for (int family = 0; family < 4; family++) {
+            x.family(family, 6 + 2 * family + by);
+        }
+        x.weeks(1 + by);
+        x.actual(0, 7 + by);
+        return x;
+    }
+
+    /** The present state and the one of slot 1 are filled by 0, that of slot 0 by 1. */
+    private static LotFences both() {
+        LotFences x = new LotFences();
+        x.save(0);
+        filled(x, 0);
+        x.save(1);
+        x.restore(0);
+        filled(x, 1);
+        x.save(0);
+        x.restore(1);
+        return x;
+    }
+
     private static void undoesTheLatest() {
         sentence(25, "Undoes the latest change:");
         LotFences x = new LotFences();
@@ -77,6 +109,11 @@ final class StateSentences extends Sentences {
             x.undo();
             same("what is seen behind undo() of the change " + kind, Seen.state(x), before);
         }
+        LotFences other = both();
+        other.restore(0);
+        same("what another state had", Seen.state(other), Seen.state(filled(new LotFences(), 1)));
+        other.undo();
+        same("what is seen behind undo() of it", Seen.state(other), Seen.state(filled(new LotFences(), 0)));
         LotFences x = new LotFences();
         x.weeks(1);
         x.save(1);
@@ -114,8 +151,8 @@ final class StateSentences extends Sentences {
     }
 
     private static void eachChangeRecords() {
-        sentence(25, "each method that is a change, and returns no error, records the state before it (also if nothing is different "
-            + "then);");
+        sentence(25, "each method that is a change, and returns no error, records the state before it (also if "
+            + "nothing is different then);");
         for (int kind = 0; kind < CHANGES.length; kind++) {
             LotFences x = works();
             x.undo();
@@ -220,7 +257,8 @@ final class StateSentences extends Sentences {
     }
 
     private static void saves() {
-        sentence(26, "Saves everything except the pad, the history and the slots in a slot, and overwrites what was saved there.");
+        sentence(26, "Saves everything except the pad, the history and the slots in a slot, and overwrites what "
+            + "was saved there.");
         LotFences x = works();
         String first = Seen.state(x);
         x.save(1);
@@ -240,6 +278,7 @@ final class StateSentences extends Sentences {
         due("the other slot was not", x.restore(0), 1);
         x.save(1);
         due("a slot saves no slot", x.restore(0), 1);
+        same("what a slot saved of all that differs", Seen.state(both()), Seen.state(filled(new LotFences(), 0)));
         LotFences y = one(1, 1, 0, 0);
         y.save(0);
         y.product(3, 4, 5, 6, 7);
@@ -302,6 +341,11 @@ final class StateSentences extends Sentences {
         x.save(1);
         x.weeks(1);
         due("what was saved last", x.restore(1), 3);
+        LotFences other = both();
+        other.restore(0);
+        same("all that differs in the slot 0", Seen.state(other), Seen.state(filled(new LotFences(), 1)));
+        other.restore(1);
+        same("all that differs in the slot 1", Seen.state(other), Seen.state(filled(new LotFences(), 0)));
         LotFences y = ten();
         y.save(0);
         y.undo();

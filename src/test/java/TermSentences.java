@@ -16,7 +16,13 @@ final class TermSentences extends Sentences {
         roundedDown();
         numberedFromZero();
         settings();
-        weeksAndProducts();
+        twelveWeeks();
+        tenProducts();
+        arguments();
+        stockAtFirst();
+        forecastsAtFirst();
+        plansAtFirst();
+        familiesAtFirst();
         hours();
         setups();
         overtime();
@@ -27,8 +33,8 @@ final class TermSentences extends Sentences {
     }
 
     private static void errorCodes() {
-        sentence("2 to 27", "Terms", "A method that fails returns one of the error codes NO_SUCH (-1), BAD_VALUE (-2), BAD_TEXT "
-            + "(-3), TOO_MANY (-4) and NOT_POSSIBLE (-5);");
+        sentence("2 to 27", "Terms", "A method that fails returns one of the error codes NO_SUCH (-1), BAD_VALUE "
+            + "(-2), BAD_TEXT (-3), TOO_MANY (-4) and NOT_POSSIBLE (-5);");
         LotFences x = new LotFences();
         due("firstShort(0) without products", x.firstShort(0), -1);
         due("weeks(0)", x.weeks(0), -2);
@@ -42,8 +48,8 @@ final class TermSentences extends Sentences {
     }
 
     private static void firstErrorIsReturned() {
-        sentence("2 to 27", "Terms", "it names its errors in the order in which they are checked, and the first one that applies "
-            + "is returned.");
+        sentence("2 to 27", "Terms", "it names its errors in the order in which they are checked, and the first "
+            + "one that applies is returned.");
         LotFences x = ten();
         due("an eleventh product() of family 4", x.product(4, 1, 1, 0, 0), BAD_VALUE);
         due("family(4, 51)", x.family(4, 51), NO_SUCH);
@@ -156,7 +162,8 @@ final class TermSentences extends Sentences {
     }
 
     private static void noneIsNoError() {
-        sentence("6, 10, 15, 17, 23, 24", "Terms", "NONE (-6) is not an error; it is returned only if no error applies.");
+        sentence("6, 10, 15, 17, 23, 24", "Terms", "NONE (-6) is not an error; it is returned only if no error "
+            + "applies.");
         LotFences x = one(1, 1, 0, 5);
         due("actual() that answers NONE", x.actual(0, 4), NONE);
         due("it is carried out", x.ofProduct(0, TOLD), 4);
@@ -248,9 +255,9 @@ final class TermSentences extends Sentences {
         due("costs at " + cost, x.count(4), want);
     }
 
-    private static void weeksAndProducts() {
-        sentence("5, 9, 11, 13", "Settings", "Twelve weeks are looked at: the week 0 is the present one, the week 11 the last "
-            + "one.");
+    private static void twelveWeeks() {
+        sentence("5, 9, 11, 13", "Settings", "Twelve weeks are looked at: the week 0 is the present one, the week "
+            + "11 the last one.");
         LotFences x = one(1, 1, 0, 9);
         due("forecast(0, -1, 1)", x.forecast(0, -1, 1), NO_SUCH);
         due("forecast(0, 12, 1)", x.forecast(0, 12, 1), NO_SUCH);
@@ -264,7 +271,9 @@ final class TermSentences extends Sentences {
         due("what came before the last week", x.ofProduct(0, CAME), 2);
         x.weeks(1);
         due("what came in the last week", x.ofProduct(0, CAME), 3);
+    }
 
+    private static void tenProducts() {
         sentence("3", "Settings", "There are up to 10 products.");
         LotFences y = ten();
         due("count(1)", y.count(1), 10);
@@ -273,15 +282,13 @@ final class TermSentences extends Sentences {
         due("forecast(9, 11, 1000) of the tenth", y.forecast(9, 11, 1000), 0);
         due("plan() with all ten", y.plan(), 100);
         due("forecast(10, 0, 0) of an eleventh", y.forecast(10, 0, 0), NO_SUCH);
+    }
 
+    private static void arguments() {
         argument("A product has a family (0 to 3),", 0, 0, 3);
         argument("a lot size (1 to 100 units),", 1, 1, 100);
         argument("hours for a lot (1 to 50),", 2, 1, 50);
         argument("hours for a setup (0 to 20),", 3, 0, 20);
-        stockAtFirst();
-        forecastsAtFirst();
-        plansAtFirst();
-        familiesAtFirst();
     }
 
     private static void argument(String words, int argument, int least, int most) {
@@ -313,6 +320,11 @@ final class TermSentences extends Sentences {
             due("error", x.ofProduct(product, ERROR), 0);
             due("cover", x.ofProduct(product, COVER), 0);
         }
+        LotFences y = takenBack();
+        y.product(1, 2, 3, 4, 6);
+        due("stock of a number that had another product", y.ofProduct(0, STOCK), 6);
+        due("backlog of it", y.ofProduct(0, BACKLOG), 0);
+        due("error of it", y.ofProduct(0, ERROR), 0);
     }
 
     private static void forecastsAtFirst() {
@@ -326,6 +338,9 @@ final class TermSentences extends Sentences {
         }
         due("forecast(0, 6, 0)", x.forecast(0, 6, 0), 1000);
         dueRow(x, 0, FORECAST, 1000, 1000, 1000, 1000, 1000, 1000, 0, 1000, 1000, 1000, 1000, 1000);
+        LotFences y = takenBack();
+        y.product(1, 2, 3, 4, 6);
+        dueRow(y, 0, FORECAST, 0, 0, 0, 0, 0, 0, 0, 0, 0, 0, 0, 0);
     }
 
     private static void plansAtFirst() {
@@ -342,6 +357,9 @@ final class TermSentences extends Sentences {
         }
         due("lots(0, 6, 0)", x.lots(0, 6, 0), 1000);
         dueRow(x, 0, LOTS, 1000, 1000, 1000, 1000, 1000, 1000, 0, 1000, 1000, 1000, 1000, 1000);
+        LotFences y = takenBack();
+        y.product(1, 2, 3, 4, 6);
+        dueRow(y, 0, LOTS, 0, 0, 0, 0, 0, 0, 0, 0, 0, 0, 0, 0);
     }
 
     private static void familiesAtFirst() {
@@ -369,8 +387,9 @@ final class TermSentences extends Sentences {
     }
 
     private static void hours() {
-        sentence("7, 8, 13", "Settings", "The hours of a week are, for each product of which lots are made in it, its hours for a "
-            + "setup, and lots * hours for a lot; and for each family with such a product the hours of the family.");
+        sentence("7, 8, 13", "Settings", "The hours of a week are, for each product of which lots are made in it, "
+            + "its hours for a setup, and lots * hours for a lot; and for each family with such a product the "
+            + "hours of the family.");
         LotFences x = three();
         due("no lots", x.ofWeek(4, 0), 0);
         x.lots(0, 4, 1);
@@ -442,8 +461,8 @@ final class TermSentences extends Sentences {
     }
 
     private static void projection() {
-        sentence("12", "Projection", "The projection of a product behind a week is stock less backlog, and for each week up to "
-            + "this one lots * lot size more, and the forecast less");
+        sentence("12", "Projection", "The projection of a product behind a week is stock less backlog, and for "
+            + "each week up to this one lots * lot size more, and the forecast less");
         LotFences x = one(10, 1, 0, 0);
         x.set(FENCE, 0);
         due("of nothing", x.projection(0, 11), 0);

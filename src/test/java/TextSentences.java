@@ -2,8 +2,9 @@
 final class TextSentences extends Sentences {
     static void all() {
         longestPad();
-        grammar();
-        acts();
+        rowOfActs();
+        formsOfActs();
+        meaningOfActs();
         digit();
         number();
         faultIsTheFirst();
@@ -60,7 +61,7 @@ final class TextSentences extends Sentences {
         due("fault() then", y.fault(), 80);
     }
 
-    private static void grammar() {
+    private static void rowOfActs() {
         sentence("23", "Texts", "text text = act { \";\" act }");
         for (String text : new String[] {"p", "p;p", "p;n1;p", "a0*1;p", "p;a0*1", "n1;n1", "f0@0*0;l0@0*0;a0*0;p;n0"}) {
             faultOf(text, NONE);
@@ -71,9 +72,11 @@ final class TextSentences extends Sentences {
         faultOf("pp", 1);
         faultOf("p;p;", 4);
         faultOf("n1p", 2);
+    }
 
-        sentence("23", "Texts", "act = \"f\" digit \"@\" number \"*\" number | \"a\" digit \"*\" number | \"l\" digit \"@\" number \"*\" "
-            + "number | \"p\" | \"n\" number");
+    private static void formsOfActs() {
+        sentence("23", "Texts", "act = \"f\" digit \"@\" number \"*\" number | \"a\" digit \"*\" number | \"l\" "
+            + "digit \"@\" number \"*\" number | \"p\" | \"n\" number");
         act("f3@11*250", "@*");
         act("l3@11*250", "@*");
         act("a3*250", "*");
@@ -102,9 +105,9 @@ final class TextSentences extends Sentences {
         }
     }
 
-    private static void acts() {
-        sentence("24", "Texts", "\"f\": forecast() of a product in a week, the units; \"a\": actual() of a product; \"l\": lots() of "
-            + "a product in a week; \"p\": plan(); \"n\": so many weeks().");
+    private static void meaningOfActs() {
+        sentence("24", "Texts", "\"f\": forecast() of a product in a week, the units; \"a\": actual() of a "
+            + "product; \"l\": lots() of a product in a week; \"p\": plan(); \"n\": so many weeks().");
         LotFences x = new LotFences();
         for (int product = 0; product < 10; product++) {
             x.product(product % 4, 10, 1, 0, 0);
@@ -166,8 +169,8 @@ final class TextSentences extends Sentences {
     }
 
     private static void faultIsTheFirst() {
-        sentence("23", "Texts", "The fault is the index of the first character that cannot stand at its place when the text is read "
-            + "from left to right (also of a digit by which a number would be above 9999);");
+        sentence("23", "Texts", "The fault is the index of the first character that cannot stand at its place when "
+            + "the text is read from left to right (also of a digit by which a number would be above 9999);");
         faultOf("x", 0);
         faultOf("px", 1);
         faultOf("p;x;x", 2);
@@ -185,9 +188,10 @@ final class TextSentences extends Sentences {
     }
 
     private static void tooEarly() {
-        sentence("23", "Texts", "if there is none and the text ends too early (also if it is empty), it is the length of the text.");
-        String[] texts = {"", "a", "a0", "a0*", "f", "f0", "f0@", "f0@1", "f0@11", "f0@1*", "l", "l0", "l0@", "l0@0", "l0@0*", "n",
-            "p;", "n1;", "a0*1;", "p;a", "p;p;n"};
+        sentence("23", "Texts", "if there is none and the text ends too early (also if it is empty), it is the "
+            + "length of the text.");
+        String[] texts = {"", "a", "a0", "a0*", "f", "f0", "f0@", "f0@1", "f0@11", "f0@1*", "l", "l0", "l0@", "l0@0",
+            "l0@0*", "n", "p;", "n1;", "a0*1;", "p;a", "p;p;n"};
         for (String text : texts) {
             faultOf(text, text.length());
         }
@@ -211,8 +215,8 @@ final class TextSentences extends Sentences {
     }
 
     private static void putOrder() {
-        sentence(21, "They are given as a number: its lowest 8 bits are the last character, the next 8 bits the one before, and so "
-            + "on;");
+        sentence(21, "They are given as a number: its lowest 8 bits are the last character, the next 8 bits the "
+            + "one before, and so on;");
         LotFences x = one(1, 1, 0, 0);
         due("put(\"a0*1234\")", x.put(0x61302a31323334L), 7);
         due("fault()", x.fault(), NONE);
@@ -227,7 +231,8 @@ final class TextSentences extends Sentences {
     }
 
     private static void putNothingAbove() {
-        sentence(21, "8 bits that are 0 mean that there are no more characters, and everything above them has to be 0, too.");
+        sentence(21, "8 bits that are 0 mean that there are no more characters, and everything above them has to "
+            + "be 0, too.");
         LotFences x = new LotFences();
         due("one character", x.put(0x70L), 1);
         due("two", x.put(0x3b70L), 3);

@@ -16,7 +16,8 @@ final class WhatIfSentences extends Sentences {
         leastHoursReturns();
         noHours();
         costs();
-        costsArguments();
+        costsFence();
+        costsWeeks();
         costsReturns();
         costsOutOfRange();
         bestFence();
@@ -83,8 +84,8 @@ final class WhatIfSentences extends Sentences {
     }
 
     private static void lasts() {
-        sentence(16, "Tells for how many weeks, from the present one on, the stock of a product less its backlog does, if no lots "
-            + "come:");
+        sentence(16, "Tells for how many weeks, from the present one on, the stock of a product less its backlog "
+            + "does, if no lots come:");
         LotFences x = one(10, 1, 0, 10);
         x.forecast(0, 3, 11);
         due("11 of 10 units in week 3", x.lasts(0), 3);
@@ -168,7 +169,8 @@ final class WhatIfSentences extends Sentences {
     }
 
     private static void leastHoursServe() {
-        sentence(17, "with which, if all was planned anew then, no projection behind a week from FENCE on would be below 0.");
+        sentence(17, "with which, if all was planned anew then, no projection behind a week from FENCE on would be "
+            + "below 0.");
         LotFences x = hourly(15);
         x.set(HOURS, 100);
         x.lots(0, 2, 15);
@@ -229,8 +231,9 @@ final class WhatIfSentences extends Sentences {
     }
 
     private static void costs() {
-        sentence(18, "Tells by how much the costs would become greater in the next weeks, if FENCE was another one, all was planned "
-            + "anew with it at once, and what comes was as forecast (also in this week, whatever was told).");
+        sentence(18, "Tells by how much the costs would become greater in the next weeks, if FENCE was another "
+            + "one, all was planned anew with it at once, and what comes was as forecast (also in this week, "
+            + "whatever was told).");
         LotFences x = costly();
         due("FENCE 0: a lot in week 1 at once", x.costs(0, 2), 5 + 100 + 7);
         due("FENCE 2: 3 are late in week 1, a lot in week 2", x.costs(2, 3), 5 + 15 + 100 + 7);
@@ -259,14 +262,18 @@ final class WhatIfSentences extends Sentences {
         due("11 are late", v.costs(1, 1), 1100);
     }
 
-    private static void costsArguments() {
+    private static void costsFence() {
         sentence(18, "fence: 0 to 8");
         LotFences x = costly();
         due("costs(-1, 1)", x.costs(-1, 1), BAD_VALUE);
         due("costs(0, 5)", x.costs(0, 5), 5 + 100 + 7 * 3 + 100 + 7);
         due("costs(8, 5)", x.costs(8, 5), 5 + 15 * 3 + 115);
         due("costs(9, 1)", x.costs(9, 1), BAD_VALUE);
+    }
+
+    private static void costsWeeks() {
         sentence(18, "weeks: 1 to 12");
+        LotFences x = costly();
         due("costs(0, 0)", x.costs(0, 0), BAD_VALUE);
         due("costs(0, 1)", x.costs(0, 1), 5);
         due("costs(0, 12)", x.costs(0, 12), 5 + 100 + 7 * 3 + 100 + 7 * 8);
@@ -366,7 +373,8 @@ final class WhatIfSentences extends Sentences {
     }
 
     private static void roomFor() {
-        sentence(20, "Tells how many more lots of a product could be made in a week, so that its hours are HOURS + OVERTIME at most.");
+        sentence(20, "Tells how many more lots of a product could be made in a week, so that its hours are HOURS + "
+            + "OVERTIME at most.");
         LotFences x = one(1, 10, 3, 0);
         x.product(0, 1, 4, 1, 0);
         x.product(1, 1, 50, 20, 0);
