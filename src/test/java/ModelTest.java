@@ -23,13 +23,18 @@ public final class ModelTest {
             m = new LotFencesModel();
             calls = 0;
             for (int turn = 0; calls <= CALLS - MOST_AT_ONCE; turn++) {
-                call("run " + run + ", call " + calls + ": ", turn < 12 ? turn % 3 : below(40));
+                call("run " + run + ", call " + calls + ": ", turn < 12 ? first(run, turn) : below(40));
                 if (turn % 32 == 31) {
                     compare("run " + run + ", behind call " + calls + ": ", below(4));
                 }
             }
         }
         Due.end();
+    }
+
+    /** Every fifth run begins with ten products, the others with a few and their forecasts. */
+    private static int first(int run, int turn) {
+        return run % 5 == 0 ? turn / 10 : turn % 3;
     }
 
     private static int below(int bound) {

@@ -91,6 +91,14 @@ final class PlanningSentences extends Sentences {
         due("-1 units, no cover", y.plan(), 1);
         y.lots(0, 2, 5);
         due("-1 units without 5 lots that were there", y.plan(), 1);
+        LotFences z = ten();
+        for (int product = 0; product < 10; product++) {
+            z.forecast(product, 2, 100 * product + 1);
+        }
+        due("-1 units of each of ten products", z.plan(), 10);
+        for (int product = 0; product < 10; product++) {
+            due("at(" + product + ", 2, 1)", z.at(product, 2, LOTS), 1);
+        }
     }
 
     /** One lot needs 4 hours, and 5 of a family; each product has one of its own, and there are hours for one of them. */
